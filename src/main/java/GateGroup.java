@@ -591,9 +591,9 @@ public final class GateGroup {
                 return;
             }
             int c = bytes[at];
-            if (isLetter(c)) {
+            if (c >= 'a' && c <= 'z') {
                 readWord();
-            } else if (isDigit(c)) {
+            } else if (c >= '0' && c <= '9') {
                 readNumber();
             } else {
                 kind = c == ';' ? A_STOP : ODD;
@@ -606,7 +606,7 @@ public final class GateGroup {
 
         private void readWord() {
             value = 0;
-            for (; at < length && isLetter(bytes[at]); at++) {
+            for (; at < length && bytes[at] >= 'a' && bytes[at] <= 'z'; at++) {
                 if (at - start < LETTERS) {
                     value |= (bytes[at] - 'a' + 1) << (5 * (at - start));
                 }
@@ -616,20 +616,12 @@ public final class GateGroup {
 
         private void readNumber() {
             value = 0;
-            for (; at < length && isDigit(bytes[at]); at++) {
+            for (; at < length && bytes[at] >= '0' && bytes[at] <= '9'; at++) {
                 if (at - start < DIGITS) {
                     value = value * 10 + bytes[at] - '0';
                 }
             }
             kind = at - start <= DIGITS ? A_NUMBER : ODD;
-        }
-
-        private static boolean isLetter(int c) {
-            return c >= 'a' && c <= 'z';
-        }
-
-        private static boolean isDigit(int c) {
-            return c >= '0' && c <= '9';
         }
 
         private boolean isEnded() {
@@ -883,7 +875,14 @@ public final class GateGroup {
                 return reader.refuse(6, first);
             }
             reader.advance();
-            return readRest(which) && reader.passStop();
+            boolean good;
+            switch (which) {
+                case GROUP: good = readGroup(); break;
+                case MEMBER: good = readMember(); break;
+                case TRACK: good = readTrack(); break;
+                default: good = readName(which); break;
+            }
+            return good && reader.passStop();
         }
 
         private boolean isFull(int which) {
@@ -891,15 +890,6 @@ public final class GateGroup {
                 return draft.tracks >= TRACKS;
             }
             return which != MEMBER && draft.counts[which] >= Net.room(which);
-        }
-
-        private boolean readRest(int which) {
-            switch (which) {
-                case GROUP: return readGroup();
-                case MEMBER: return readMember();
-                case TRACK: return readTrack();
-                default: return readName(which);
-            }
         }
 
         private boolean readName(int sort) {
@@ -1131,7 +1121,7 @@ public final class GateGroup {
 
         private void add(int tick, int group, int gate, int what) {
             newest = newest + 1 < CHANGES ? newest + 1 : 0;
-            count = Math.min(count + 1, CHANGES);
+            count = count < CHANGES ? count + 1 : CHANGES;
             int row = newest * WIDTH;
             rows[row] = tick;
             rows[row + 1] = group;
@@ -1317,8 +1307,10 @@ public final class GateGroup {
         }
 
         private void tell(int group, int gate, int word) {
-            state.told[group * GATES + gate] = word;
-            weigh(group * GATES + gate);
+            if (net.isMember(group, gate)) {
+                state.told[group * GATES + gate] = word;
+                weigh(group * GATES + gate);
+            }
         }
 
         /** GATES that are down come up. */
@@ -1379,11 +1371,11 @@ public final class GateGroup {
             state.changes.add(state.tick, group, gate, BEGAN);
         }
 
+        /** Leaves it to the caller to let it WAIT. */
         private void giveUp(int group, int gate) {
             state.held[group] &= ~(1 << gate);
             stirs++;
             state.changes.add(state.tick, group, gate, GAVE_UP);
-            await(group, gate);
         }
 
         /** Begins to WAIT, or does so anew, without a WISH. */
@@ -1519,11 +1511,12 @@ public final class GateGroup {
             int m = group * GATES + reader;
             int sentWord = state.weight[group * GATES + sender];
             boolean stronger = sentWord > state.weight[m] || sentWord == state.weight[m] && sender > reader;
-            if (state.isHeld(group, reader)) {
-                if (stronger) {
-                    giveUp(group, reader);
-                }
+            boolean holds = state.isHeld(group, reader);
+            if (holds && !stronger) {
                 return;
+            }
+            if (holds) {
+                giveUp(group, reader);
             }
             if (stronger || net.keeps[group] == 1) {
                 await(group, reader);
