@@ -6,6 +6,7 @@ public final class HoldTest {
     spread();
     spreadInParts();
     noShares();
+    oneSlot();
     noneSuch();
     Kit.finish("HoldTest");
   }
@@ -107,6 +108,16 @@ public final class HoldTest {
     x.down(1, false);
     due("24 nobody", x.slot(0, 0, 0), -1);
     due("25", x.slots(0, 1), 0);
+  }
+
+  static void oneSlot() {
+    String net = "gate a;gate b;group g every 5;member a of g word 9;member b of g word 2 share 7;";
+    due("27 all by b", Kit.of(net).load(0, 1, 9999), 9999);
+    due("27 none by a", Kit.of(net).load(0, 0, 1), 0);
+    due("26", Kit.of(net).host(0, 0, 5), 1);
+    due("25", Kit.of(net).slots(0, 1), 1);
+    due("24", Kit.of(net).slot(0, 0, 0), 1);
+    due("24 none such", Kit.of(net).slot(0, 0, 1), -1);
   }
 
   static void noneSuch() {

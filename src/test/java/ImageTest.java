@@ -5,6 +5,7 @@ public final class ImageTest {
   public static void main(String[] args) {
     log();
     undo();
+    undoAll();
     undoEach();
     twelve();
     images();
@@ -44,6 +45,41 @@ public final class ImageTest {
     due("41", x.undo(), 0);
     due("41 TICK 0", x.has(5), 0);
     due("41 none can be", x.undo(), -3);
+  }
+
+  /** With all that can change: WISHES, GAPS, DOUBLES, letters that are LOST, a full LOG. */
+  static void undoAll() {
+    GateGroup x = Kit.of("gate a;gate b;gate c;link l;group g every 1 delay 9;group h every 1;member a of g word 100;member b of g word 200;member c of h word 255;"
+        + "member a of h word 3;", "at 3 down b;at 10 up b;");
+    for (int i = 0; i < 25; i++) { x.down(2, false); x.up(2); }
+    x.chance(70, 3);
+    x.ticks(100);
+    x.chance(0, 1);
+    x.word(0, 1, 1);
+    x.ticks(3);
+    x.word(0, 1, 150);
+    x.word(0, 0, 149);
+    x.ticks(2);
+    x.split(1);
+    x.ticks(8);
+    x.split(0);
+    x.cut(0, true);
+    int[] before = PaperTest.picture(x);
+    x.keep(1);
+    for (int round = 0; round < 2; round++) {
+      x.chance(50, 9);
+      x.ticks(300);
+      Kit.plan(x, "");
+      x.down(0, true);
+      x.down(1, true);
+      x.ticks(1);
+      x.cut(0, false);
+      for (int i = 0; i < 7 && round == 0; i++) x.undo();
+      if (round == 1) x.back(1);
+      int[] after = PaperTest.picture(x);
+      for (int i = 0; i < before.length; i++) due("41, 43 as it was, " + i, after[i], i == 13 ? 5 * (1 - round) : before[i]);
+      due("41, 43 the PLAN", x.event(0, 0), 3);
+    }
   }
 
   static void undoEach() {

@@ -8,8 +8,10 @@ public final class PaperTest {
     ahead();
     fails();
     failsInParts();
+    failsAtLast();
     worst();
     settles();
+    settlesAtEdges();
     least();
     flaps();
     needs();
@@ -74,6 +76,49 @@ public final class PaperTest {
     Kit.plan(x, "at 9 heal;");
     due("29 healed at 9: a holds or b, in 9 TICKS", x.fails(0, 2, 0), 9);
     due("29 who", x.fails(0, 2, 1), 1);
+  }
+
+  static void failsAtLast() {
+    String net = "gate a;gate b;group g every 1;member a of g word 255;member b of g word 255;";
+    GateGroup x = Kit.of(net, "at 0 down b;at 499 up b;");
+    x.ticks(1);
+    Kit.plan(x, "at 500 up b;");
+    due("29 behind 500", x.fails(0, 0, 0), 500);
+    due("29 who", x.fails(0, 0, 1), 1);
+    due("30", x.worst(0, 0), 500);
+    due("30", x.worst(0, 1), 0);
+    due("37 behind 0", x.returns(0, 1), 0);
+    Kit.plan(x, "at 501 up b;");
+    due("29 not by 500", x.fails(0, 0, 0), -1);
+    due("29 not by 500", x.fails(0, 0, 1), -1);
+    Kit.plan(x, "at 5 up a;");
+    due("29 some other MEMBER, not itself", x.fails(0, 0, 0), -1);
+    x.word(0, 1, 9);
+    Kit.plan(x, "at 500 word b of g 255;at 500 down b;at 500 up b;");
+    due("37 behind 500", x.returns(0, 1), 500);
+    Kit.plan(x, "at 501 word b of g 255;at 501 down b;at 501 up b;");
+    due("37 not by 500", x.returns(0, 1), -1);
+  }
+
+  static void settlesAtEdges() {
+    String net = "gate a;link l;group g every 1;member a of g word 255;";
+    GateGroup x = Kit.of(net, "at 100 down a;at 100 up a;");
+    due("31 the 100 TICKS 0 to 99", x.settles(), 0);
+    Kit.plan(x, "at 99 down a;at 99 up a;");
+    due("31", x.settles(), 100);
+    String often = "at 99 down a;at 99 up a;at 199 down a;at 199 up a;at 299 down a;at 299 up a;at 399 down a;at 399 up a;";
+    Kit.plan(x, often + "at 499 down a;at 499 up a;");
+    due("31 500", x.settles(), 500);
+    Kit.plan(x, often + "at 450 down a;at 450 up a;at 500 down a;at 500 up a;");
+    due("31 not by 500", x.settles(), -1);
+    // to give up alone
+    GateGroup y = Kit.of("gate a;gate b;group g every 2;member a of g word 255;member b of g word 1;");
+    y.split(1);
+    Kit.till(y, 50);
+    y.split(0);
+    due("8 both", y.group(0, 8), 3);
+    due("31 b gives up when a sends", y.settles(), 1);
+    due("33 none begins", y.flaps(0, 500), 0);
   }
 
   static void worst() {
@@ -145,6 +190,10 @@ public final class PaperTest {
     due("32 it is down", x.least(0, 0), -1);
     due("32 alone", x.least(0, 1), 1);
     due("32 no MEMBER", x.least(0, 2), -1);
+    GateGroup w = Kit.of("gate a;gate b;group g every 2;member a of g word 9;member b of g word 253;");
+    due("32 the greatest", w.least(0, 0), 254);
+    w.word(0, 1, 254);
+    due("32 254 is not enough", w.least(0, 0), -1);
     GateGroup y = Kit.of("gate a;gate b;group g every 2;member a of g word 255;member b of g word 5;");
     due("32 not against 255", y.least(0, 1), -1);
     GateGroup z = Kit.of("gate a;gate b;group g every 2 keeps;member a of g word 9;member b of g word 5;");
@@ -216,6 +265,8 @@ public final class PaperTest {
   static void returns() {
     GateGroup x = Kit.of(NET);
     due("37 it is up", x.returns(0, 0), -1);
+    due("37 it is up", x.returns(0, 1), -1);
+    due("37 it is up", x.returns(1, 2), -1);
     x.down(2, false);
     due("37 at once", x.returns(1, 2), 0);
     due("37 no MEMBER", x.returns(0, 2), -1);
@@ -290,6 +341,10 @@ public final class PaperTest {
       due("35 as it will be", sent, x.has(14));
       x.back(0);
       due("7 x as it is", x.has(10), seed);
+      // on paper without DRAWS in between
+      x.chance(0, 1);
+      due("28 no DRAWS", x.ahead(0, 400), x.ahead(0, 500));
+      x.undo();
     }
   }
 

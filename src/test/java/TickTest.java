@@ -12,7 +12,9 @@ public final class TickTest {
     topWord();
     tracked();
     gently();
+    gentlySoon();
     parts();
+    allGroups();
     lostLetters();
     allLost();
     planned();
@@ -258,6 +260,42 @@ public final class TickTest {
     z.split(0);
     z.down(0, true);
     due("9 below its SKEW of 19", z.member(0, 1, 4), 10);
+  }
+
+  /** SKEW 20 * 6 / 256 is 0: the CLOCK is 1. */
+  static void gentlySoon() {
+    GateGroup x = Kit.of("gate a;gate b;group g every 20;member a of g word 250;member b of g word 255;");
+    x.ticks(5);
+    due("9 SKEW", x.member(0, 0, 5), 0);
+    x.down(1, true);
+    due("9 CLOCK", x.member(0, 0, 4), 1);
+    x.ticks(1);
+    due("8 nobody yet", x.group(0, 8), 0);
+    x.ticks(1);
+    due("8 a", x.group(0, 8), 1);
+  }
+
+  static void allGroups() {
+    StringBuilder s = new StringBuilder("gate a;gate b;gate c;gate d;gate e;gate f;");
+    for (char g = 'g'; g <= 'k'; g++) {
+      s.append("group " + g + " every 1;");
+      for (char k = 'a'; k <= 'f'; k++) s.append("member " + k + " of " + g + " word " + (k == 'f' ? 255 : 9) + ";");
+    }
+    GateGroup x = Kit.of(s.toString());
+    x.ticks(10);
+    for (int g = 0; g < 5; g++) due("8 f", x.group(g, 8), 32);
+    due("7 letters", x.has(14), 50);
+    due("15 of all", x.down(5, true), 5);
+    due("22 all", x.orphans(), 31);
+    x.ticks(10);
+    for (int g = 0; g < 5; g++) due("8 e", x.group(g, 8), 16);
+    due("14", x.up(5), 1);
+    due("21 all", x.doubles(), 31);
+    due("23 all", x.holds(5), 31);
+    x.ticks(1);
+    due("21 none", x.doubles(), 0);
+    due("35", x.letters(500), 2500);
+    due("31", x.settles(), 0);
   }
 
   static void parts() {
