@@ -31,7 +31,9 @@ public final class ModelTest {
   }
 
   boolean play() throws Exception {
-    boolean good = tellNet(0) && both("net");
+    boolean good = true;
+    for (int i = 0; good && i < 20; i++) good = askWith(random.nextBoolean() ? ACTS[random.nextInt(ACTS.length)] : LOOKS[random.nextInt(LOOKS.length)]);
+    good = good && both("undo") && both("keep", 0) && both("back", 0) && tellNet(0) && both("net");
     int late = random.nextInt(4) == 0 ? 17 + random.nextInt(4) : 0;
     for (int i = 0; good && i < late; i++) good = both("ticks", 500);
     for (int i = 0; good && i < 300; i++) good = turn() && (i % 8 > 0 || whole());
