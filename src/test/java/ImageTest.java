@@ -6,6 +6,7 @@ public final class ImageTest {
     log();
     undo();
     undoAll();
+    undoWishes();
     undoEach();
     twelve();
     images();
@@ -80,6 +81,32 @@ public final class ImageTest {
       for (int i = 0; i < before.length; i++) due("41, 43 as it was, " + i, after[i], i == 13 ? 5 * (1 - round) : before[i]);
       due("41, 43 the PLAN", x.event(0, 0), 3);
     }
+  }
+
+  static void undoWishes() {
+    GateGroup x = Kit.of("gate a;gate b;group g every 2 delay 50;member a of g word 100;member b of g word 200;");
+    x.ticks(3);
+    due("8 GAPS", x.group(0, 5), 3);
+    x.ticks(2);
+    x.undo();
+    due("41 GAPS", x.group(0, 5), 3);
+    x.down(1, false);
+    x.ticks(20);
+    x.up(1);
+    x.ticks(5);
+    int since = x.member(0, 1, 7);
+    Kit.due("9 WISHES", since >= 23, true);
+    x.keep(0);
+    x.down(1, false);
+    due("9 WISHES no more", x.member(0, 1, 7), -1);
+    x.undo();
+    due("41 WISHES", x.member(0, 1, 7), since);
+    x.ticks(100);
+    due("9 took it", x.member(0, 1, 7), -1);
+    x.back(0);
+    due("43 WISHES", x.member(0, 1, 7), since);
+    due("28 on paper, too", x.ahead(0, since + 50 - 28), 1);
+    due("28 on paper, too", x.ahead(0, since + 51 - 28), 3);
   }
 
   static void undoEach() {

@@ -102,6 +102,14 @@ public final class TextTest {
     due("4 DOUBLES", x.group(0, 6), 0);
     due("4 WISHES", x.member(0, 0, 7), -1);
     due("4 WISHES", x.member(0, 1, 7), -1);
+    String tracked = "gate q;link l;group s every 1;member q of s word 99;";
+    Kit.net(x, tracked + "track q of s by l less 9;");
+    x.cut(0, true);
+    due("4 a TRACK", x.member(0, 0, 1), 90);
+    Kit.net(x, tracked);
+    due("4 LINKS are whole", x.has(7), 0);
+    x.cut(0, true);
+    due("4 no TRACK", x.member(0, 0, 1), 99);
     due("4 nothing at all", Kit.net(x, " \n "), 0);
     due("4 no GATE", x.has(0), 0);
     due("4 no GATE up", x.has(6), 0);
