@@ -1,3 +1,5 @@
+import java.io.PrintWriter;
+import java.io.StringWriter;
 import java.lang.reflect.Field;
 import java.lang.reflect.Member;
 import java.lang.reflect.Method;
@@ -6,10 +8,13 @@ import java.nio.file.Files;
 import java.nio.file.Path;
 import java.util.ArrayList;
 import java.util.List;
+import java.util.Map;
 import java.util.Set;
+import java.util.TreeMap;
 import java.util.TreeSet;
 import java.util.regex.Matcher;
 import java.util.regex.Pattern;
+import java.util.spi.ToolProvider;
 
 /** The public face, and those rules of LANGUAGE.md that can be seen from the classes and the source. */
 public final class FaceTest {
@@ -24,6 +29,7 @@ public final class FaceTest {
     face();
     classes();
     source(strip(Files.readString(Path.of("src/main/java/GateGroup.java"))));
+    depth();
     Kit.finish("FaceTest");
   }
 
@@ -105,5 +111,54 @@ public final class FaceTest {
       boolean constructor = head != null && head.matches("(public|private) [A-Z]\\w*\\(.*");
       must("rows are made in constructors: " + lines[i].trim(), !makes || head == null || constructor);
     }
+  }
+
+  /** Rule 11: calls go eight deep at most, the library's included; rule 8: none comes back to itself. */
+  static void depth() throws Exception {
+    ToolProvider javap = ToolProvider.findFirst("javap").orElse(null);
+    if (javap == null) { System.out.println("FaceTest: without javap the depth of calls is not looked at"); return; }
+    List<String> args = new ArrayList<>(List.of("-c", "-p", "-s"));
+    try (var files = Files.list(Path.of(GateGroup.class.getProtectionDomain().getCodeSource().getLocation().toURI()))) {
+      files.map(Path::toString).filter(f -> f.matches(".*GateGroup(\\$\\w+)?\\.class")).forEach(args::add);
+    }
+    StringWriter told = new StringWriter();
+    javap.run(new PrintWriter(told), new PrintWriter(told), args.toArray(new String[0]));
+    Map<String, Set<String>> calls = calls(told.toString());
+    must("public methods are among them", calls.containsKey("GateGroup.needs:(II)I"));
+    for (String m : calls.keySet()) {
+      int deep = deep(calls, m, new ArrayList<>());
+      must(m + " goes " + deep + " deep", deep <= 8);
+    }
+  }
+
+  static Map<String, Set<String>> calls(String told) {
+    Map<String, Set<String>> calls = new TreeMap<>();
+    String owner = "";
+    String name = "";
+    String caller = "";
+    for (String line : told.split("\n")) {
+      Matcher c = Pattern.compile("^(?:\\w+ )*class (\\S+)").matcher(line);
+      Matcher n = Pattern.compile("^  \\S.*?([\\w$]+)\\(.*\\);$").matcher(line);
+      Matcher d = Pattern.compile("^    descriptor: (\\(.*)$").matcher(line);
+      Matcher call = Pattern.compile("// Method (\\S+)$").matcher(line);
+      if (c.find()) owner = c.group(1);
+      else if (n.find()) name = n.group(1).equals(owner) ? "<init>" : n.group(1);
+      else if (d.find()) { caller = owner + "." + name + ":" + d.group(1); calls.put(caller, new TreeSet<>()); }
+      else if (call.find()) {
+        String whom = call.group(1).replace("\"", "");
+        calls.get(caller).add(whom.substring(0, whom.indexOf(':')).contains(".") ? whom : owner + "." + whom);
+      }
+    }
+    return calls;
+  }
+
+  static int deep(Map<String, Set<String>> calls, String method, List<String> open) {
+    must("no way back to " + method, !open.contains(method));
+    if (open.contains(method) || !calls.containsKey(method)) return 1;
+    open.add(method);
+    int most = 0;
+    for (String m : calls.get(method)) most = Math.max(most, deep(calls, m, open));
+    open.remove(method);
+    return most + 1;
   }
 }
