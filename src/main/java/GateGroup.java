@@ -1002,10 +1002,6 @@ public final class GateGroup {
             count++;
         }
 
-        private boolean isEvent(int k) {
-            return k >= 0 && k < count;
-        }
-
         private int at(int k) {
             return rows[k * WIDTH];
         }
@@ -1413,7 +1409,7 @@ public final class GateGroup {
         /** For how many TICKS no EVENT is due and no CLOCK has run out. */
         private int quietTicks(int most) {
             int quiet = most;
-            if (state.plan.isEvent(state.next)) {
+            if (state.next < state.plan.count) {
                 quiet = Math.min(quiet, state.plan.at(state.next) - state.tick);
             }
             for (int g = firstGroup; g <= lastGroup && quiet > 0; g++) {
@@ -1437,7 +1433,7 @@ public final class GateGroup {
 
         /** EVENTS that are due; one that is so already is nothing. */
         private void happen() {
-            for (int k = state.next; state.plan.isEvent(k) && state.plan.at(k) == state.tick; k++) {
+            for (int k = state.next; k < state.plan.count && state.plan.at(k) == state.tick; k++) {
                 state.next = k + 1;
                 int row = k * Plan.WIDTH;
                 int whom = state.plan.rows[row + 2];

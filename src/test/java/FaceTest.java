@@ -56,9 +56,14 @@ public final class FaceTest {
     must("one constructor", GateGroup.class.getDeclaredConstructors().length == 1 && GateGroup.class.getConstructors().length == 1);
   }
 
+  static Set<String> publicNames() {
+    Set<String> names = new TreeSet<>();
+    for (String f : FACE.split(" ")) names.add(f.substring(0, f.indexOf('(')));
+    return names;
+  }
+
   static void classes() {
-    Set<String> publicNames = new TreeSet<>();
-    for (String f : FACE.split(" ")) publicNames.add(f.substring(0, f.indexOf('(')));
+    Set<String> publicNames = publicNames();
     List<Class<?>> all = new ArrayList<>(List.of(GateGroup.class.getDeclaredClasses()));
     must("twelve classes: " + (all.size() + 1), all.size() + 1 <= 12);
     for (Class<?> c : all) must(c + " is static and not public", Modifier.isStatic(c.getModifiers()) && !Modifier.isPublic(c.getModifiers()));
